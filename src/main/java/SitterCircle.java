@@ -907,7 +907,7 @@ public final class SitterCircle {
             return pairs;
         }
 
-        /** Takes an offer for the ask, if need be from another ask that takes a further one; answers whether. */
+        /** Answers whether the ask took an offer, if need be from another ask that took a further one. */
         private boolean takeOne(int ask, int free, int depth) {
             if (ask < 0 || ask >= askCount || depth > MOST_VISITS) {
                 return false;

@@ -13,6 +13,7 @@ public final class FamiliesTest {
         wrongNumbers();
         oldestGoFirst();
         newestAreGivenUpFirst();
+        notesOfManyDays();
         check.finish();
     }
 
@@ -175,5 +176,49 @@ public final class FamiliesTest {
         due("2 has none", x.told(2, 0), 0);
         due("2's oldest", x.told(2, 2), NONE);
         due("2's next", x.told(2, 5), 0);
+    }
+
+    /** Family 0 gets a note of each of ten days, in an order that is not theirs. */
+    private static SitterCircle manyDays(int... payers) {
+        SitterCircle x = Check.circle("issue 1; debt 6;", 1);
+        for (int day = 1; day <= 10; day++) {
+            x.go(1);
+            x.join();
+        }
+        for (int payer : payers) {
+            sit(x, payer, 0, 1);
+        }
+        return x;
+    }
+
+    private static void notesOfManyDays() {
+        SitterCircle x = manyDays(5, 1, 9, 3, 7, 2, 8, 4, 6);
+        due("ten notes", x.told(0, 0), 10);
+        for (int day = 0; day < 10; day++) {
+            due("oldest " + day, x.told(0, 2), day);
+            due("of day " + day, x.told(0, 5), 1);
+            sit(x, 0, 1 + day % 9, 1);
+        }
+        due("none", x.told(0, 2), NONE);
+
+        // of notes of five days the three newest go for three that are owed
+        SitterCircle y = manyDays(4, 2, 3, 1);
+        sit(y, 9, 8, 4);
+        due("9 owes", y.told(9, 1), 3);
+        sit(y, 0, 9, 5);
+        due("9 has two", y.told(9, 0), 2);
+        due("9 owes no more", y.told(9, 1), 0);
+        due("9's oldest", y.told(9, 2), 0);
+        sit(y, 9, 5, 1);
+        due("9's other one", y.told(9, 2), 1);
+
+        // half of the days expire at once
+        SitterCircle z = manyDays(9, 8, 7, 6, 5, 4, 3, 2, 1);
+        Check.write(z, "expire 5;").vote(10);
+        due("days 0 to 4", z.count(8), 5);
+        due("five notes", z.told(0, 0), 5);
+        due("of day 5 on", z.told(0, 2), 5);
+        sit(z, 0, 1, 4);
+        due("the last is of day 9", z.told(0, 2), 9);
     }
 }

@@ -53,6 +53,11 @@ public final class ModelTest {
     }
 
     private void play() {
+        if (run % 3 == 0) {
+            playCalmly();
+        } else if (run % 3 == 1) {
+            playBusyEvenings();
+        }
         int mood = 0;
         while (calls < CALLS && check.isClean()) {
             if (any(12) == 0) {
@@ -68,6 +73,90 @@ public final class ModelTest {
             if (now(60)) {
                 look();
             }
+        }
+    }
+
+    private void voteFirst(String law) {
+        byte[] bytes = law.getBytes(StandardCharsets.ISO_8859_1);
+        for (int i = 0; i < bytes.length; i += 8) {
+            long v = Check.eightBytes(bytes, i);
+            due("feed " + v, x.feed(v), m.feed(v));
+        }
+        due("vote " + law, x.vote(0), m.vote(0));
+    }
+
+    /** Evenings on which most asks fit some offers, and bars come and go. */
+    private void playBusyEvenings() {
+        voteFirst("issue " + any(30) + ";double " + (25 + any(20)) + ";late 4;debt " + any(30) + ";");
+        for (int i = 0; i < 12; i++) {
+            due("join", x.join(), m.join());
+        }
+        int evenings = 2 + any(3);
+        for (int i = 0; i < evenings && check.isClean(); i++) {
+            fillEvening(3 + any(8), 3 + any(8), 1 + any(6));
+            lookAtMatch();
+            int f = any(12);
+            int g = any(12);
+            due("bar " + f + " " + g, x.bar(f, g, true), m.bar(f, g, true));
+            int ask = any(10);
+            due("broken " + ask, x.broken(ask), m.broken(ask));
+            lookAtMatch();
+            due("evening", x.evening(), m.evening());
+            for (int what = 0; what < 6; what++) {
+                due("told " + f + " " + what, x.told(f, what), m.told(f, what));
+            }
+            due("go 1", x.go(1), m.go(1));
+        }
+    }
+
+    /** The narrower the offers, the fewer fit. */
+    private void fillEvening(int asks, int offers, int width) {
+        for (int i = 0; i < asks; i++) {
+            int f = any(12);
+            int from = 20 + any(10);
+            int to = from + 1 + any(6);
+            due("ask " + f + " " + from + " " + to, x.ask(f, from, to), m.ask(f, from, to));
+        }
+        for (int i = 0; i < offers; i++) {
+            int f = any(12);
+            int from = 26 - any(4 * width);
+            int to = 27 + any(4 * width) % 21;
+            due("offer " + f + " " + from + " " + to, x.offer(f, from, to), m.offer(f, from, to));
+        }
+    }
+
+    private void lookAtMatch() {
+        lookAtCover();
+        for (int ask = 0; ask < m.count(3); ask++) {
+            due("sitter " + ask, x.sitter(ask), m.sitter(ask));
+            int offer = any(10);
+            due("fits " + ask + " " + offer, x.fits(ask, offer), m.fits(ask, offer));
+        }
+        int n = any(60);
+        due("would " + n, x.would(n), m.would(n));
+    }
+
+    /** Days with a sitting each, so that purses come to hold notes of many days. */
+    private void playCalmly() {
+        voteFirst("issue " + any(4) + ";late 3;debt " + any(100) + ";");
+        int days = 20 + any(40);
+        for (int i = 0; i < days && check.isClean(); i++) {
+            if (any(4) == 0) {
+                due("join", x.join(), m.join());
+            }
+            int f = any(6);
+            int g = any(6);
+            int to = 1 + any(9);
+            due("ask " + f, x.ask(f, 0, to), m.ask(f, 0, to));
+            due("offer " + g, x.offer(g, 0, to), m.offer(g, 0, to));
+            if (any(4) == 0) {
+                due("broken", x.broken(0), m.broken(0));
+            }
+            due("evening", x.evening(), m.evening());
+            due("told " + g, x.told(g, 5), m.told(g, 5));
+            due("oldest of " + f, x.told(f, 2), m.told(f, 2));
+            int n = 1 + any(3);
+            due("go " + n, x.go(n), m.go(n));
         }
     }
 

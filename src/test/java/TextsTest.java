@@ -114,6 +114,9 @@ public final class TextsTest {
         refuses("issue :;", 1, 6);
         refuses("issues 3;", 1, 0);
         refuses("issu 3;", 1, 0);
+        refuses("issuea 3;", 1, 0);
+        refuses("issuez 3;", 1, 0);
+        refuses("issue 90009;", 1, 6);
         refuses("  issueissue 3;", 1, 2);
         refuses("issue 00003;", 1, 6);
         refuses("issue 12345678901234567890;", 1, 6);
