@@ -84,11 +84,23 @@ public final class FaceTest {
             int m = c.getModifiers();
             is(c + " is static", Modifier.isStatic(m));
             is(c + " is hidden", !Modifier.isPublic(m) && !Modifier.isProtected(m));
+            for (Method inside : c.getDeclaredMethods()) {
+                is(inside + " bears no public method's name", !isOfTheFace(inside.getName()));
+            }
             for (Field f : c.getDeclaredFields()) {
                 is(f + " is no changing static",
                         !Modifier.isStatic(f.getModifiers()) || Modifier.isFinal(f.getModifiers()));
             }
         }
+    }
+
+    private static boolean isOfTheFace(String name) {
+        for (String method : METHODS) {
+            if (method.startsWith(name + "(")) {
+                return true;
+            }
+        }
+        return false;
     }
 
     private static void newObject() {

@@ -13,6 +13,7 @@ public final class Promise01NewObjectTest {
         anEmptyTape();
         noEvening();
         nothingIsShared();
+        fiveHundredAndTwelveCalls();
         promise.finish();
     }
 
@@ -117,5 +118,21 @@ public final class Promise01NewObjectTest {
         for (int what = 0; what < 10; what++) {
             due("count(" + what + ") behind another one", x.count(what), 0);
         }
+    }
+
+    private static void fiveHundredAndTwelveCalls() {
+        promise.says("An object is used for at most 512 calls");
+        SitterCircle x = new SitterCircle();
+        x.join();
+        x.join();
+        for (int call = 3; call < 512; call++) {
+            x.bar(0, 1, call % 2 == 0);
+        }
+        due("the 512th call", x.bar(0, 1, true), 0);
+        SitterCircle y = new SitterCircle();
+        for (int call = 1; call < 512; call++) {
+            y.sheet(call % 4, call % 2, 60);
+        }
+        due("the 512th call, of sheets", y.lay(3, 59, 1), 1);
     }
 }

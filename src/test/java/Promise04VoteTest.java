@@ -400,6 +400,20 @@ public final class Promise04VoteTest {
         faulty("late late?", 2, 5);
         faulty("; ?", 2, 0);
         faulty("? ;", 1, 0);
+        // behind the first fault nothing is read any more, whatever stands there
+        for (String behind : new String[] {"", "?", " foo", " 12345", ";", " late 51;", " 7"}) {
+            faulty("3 " + behind, 2, 0);
+            faulty("late ;" + behind, 2, 5);
+            faulty("late debt " + behind, 2, 5);
+            faulty("late 3 debt " + behind, 2, 7);
+            faulty("late 3 4 " + behind, 2, 7);
+            faulty("late 3;;" + behind, 2, 7);
+            faulty("late 51 " + behind, 3, 5);
+            faulty("late 3;late " + behind, 4, 7);
+            faulty("late 12345 " + behind, 1, 5);
+            faulty("foo " + behind, 1, 0);
+            faulty("?" + behind, 1, 0);
+        }
     }
 
     private static int expiredAt(int age, int expire, int ahead) {

@@ -10,9 +10,11 @@ public final class Promise12ToldTest {
         notes();
         owes();
         theOldestDay();
+        theOldestOfManyDays();
         satAsPrices();
         howOftenSatFor();
         thoseThatExpireNext();
+        allOfTheOldestDay();
         changesNothing();
         promise.finish();
     }
@@ -106,6 +108,25 @@ public final class Promise12ToldTest {
         due("of day 2000", last.told(0, 2), 2000);
     }
 
+    private static void theOldestOfManyDays() {
+        promise.says("2 the DAY of its oldest NOTE: of as many DAYS as there are");
+        // each day 0 lacks one, so that 1 gets a new one of each day
+        SitterCircle x = Check.circle("debt 100;", 3);
+        int days = 60;
+        for (int day = 0; day < days; day++) {
+            Circles.sit(x, 0, 1, 1);
+            x.go(1);
+        }
+        due("notes of all days", x.told(1, 0), days);
+        for (int day = 0; day < days; day++) {
+            due("the oldest", x.told(1, 2), day);
+            Circles.sit(x, 1, 2, 1);
+        }
+        due("none is left", x.told(1, 2), NONE);
+        due("all went over", x.told(2, 0), days);
+        due("the oldest of these", x.told(2, 2), 0);
+    }
+
     private static void satAsPrices() {
         promise.says("3 half hours that it sat (as PRICES)");
         for (int from = 38; from <= 41; from++) {
@@ -172,6 +193,28 @@ public final class Promise12ToldTest {
         due("none then", x.told(0, 5), 0);
         due("none issued", Check.circle("", 1).told(0, 5), 0);
         due("nothing expires", Check.circle("issue 7;", 1).told(0, 5), 7);
+    }
+
+    private static void allOfTheOldestDay() {
+        promise.says("(of the oldest DAY): all of these, whenever they came");
+        SitterCircle x = Check.circle("issue 3;", 2);
+        Circles.sit(x, 1, 0, 2);
+        due("its own and two that came", x.told(0, 5), 5);
+        x.go(1);
+        x.join();
+        x.join();
+        Circles.sit(x, 2, 0, 2);
+        Circles.sit(x, 3, 0, 1);
+        due("later ones are not of it", x.told(0, 5), 5);
+        Circles.sit(x, 1, 0, 1);
+        due("one of day 0 came last", x.told(0, 5), 6);
+        Circles.sit(x, 0, 1, 4);
+        due("two are left", x.told(0, 5), 2);
+        Circles.sit(x, 0, 1, 2);
+        due("those of day 1", x.told(0, 5), 3);
+        Circles.sit(x, 3, 0, 2);
+        due("and two more", x.told(0, 5), 5);
+        due("all that it has", x.told(0, 0), 5);
     }
 
     private static void changesNothing() {

@@ -12,6 +12,7 @@ public final class Promise19WhyTest {
         powersOfTwo();
         reached();
         soManyAsPairs();
+        askedAgain();
         changesNothing();
         promise.finish();
     }
@@ -92,6 +93,8 @@ public final class Promise19WhyTest {
         promise.says("REACHED are these, all OFFERS that FIT one, all ASKS that have such an OFFER, and so on");
         why("one step", Circles.grid(2, 1, 1, 2), 4, 1);
         why("two steps", Circles.grid(2, 1, 3, 2), 0, 3);
+        why("two steps, over ask 0", Circles.grid(2, 3, 2, 1), 0, 3);
+        why("two steps, from ask 0 to the last", Circles.grid(3, 5, 2, 4, 1), 2, 5);
         // ask 3 is left: offer 1, ask 1, offer 0, ask 0; asks 2, 4 and offers 2, 3 are apart
         why("apart from others", Circles.grid(4, 1, 3, 12, 2, 4), 20, 3);
         // ask 5 is left: offer 4, ask 4, offer 3, ask 3, .. down to ask 0
@@ -129,6 +132,21 @@ public final class Promise19WhyTest {
                 due("offers that fit ask " + a, (asks >> a & 1) != 0 ? 0 : rows[a] & ~offers, 0);
             }
         }
+    }
+
+    private static void askedAgain() {
+        promise.says("WHY no more: of what there is now");
+        SitterCircle x = Circles.grid(2, 1, 1, 2);
+        why("one goes without", x, 4, 1);
+        x.broken(1);
+        why("all are met", x, 3, 0);
+        x.bar(0, 3, true);
+        why("ask 0 fits none", x, 2, 0);
+        x.bar(0, 3, false);
+        x.ask(0, 0, 1);
+        why("one goes without again", x, 2, 1);
+        x.evening();
+        why("nothing is there", x, 0, 0);
     }
 
     private static void changesNothing() {
