@@ -124,23 +124,8 @@ public final class EveningTest {
         due("owes too much", y.fits(0, 0), 0);
     }
 
-    /** Families 0 .. 9 ask, family 10 offers; rows of bits tell which offers fit. */
-    private static SitterCircle grid(int[] rows, int offers) {
-        SitterCircle x = Check.circle("issue 48;", rows.length + offers);
-        for (int a = 0; a < rows.length; a++) {
-            x.ask(a, 0, 1);
-        }
-        for (int o = 0; o < offers; o++) {
-            x.offer(rows.length + o, 0, 1);
-            for (int a = 0; a < rows.length; a++) {
-                x.bar(a, rows.length + o, (rows[a] >> o & 1) == 0);
-            }
-        }
-        return x;
-    }
-
     private static void matchIs(String name, int[] rows, int offers, int[] sitters, int asks, int offersWhy) {
-        SitterCircle x = grid(rows, offers);
+        SitterCircle x = Circles.grid(offers, rows);
         int met = 0;
         for (int a = 0; a < sitters.length; a++) {
             due(name + " sitter(" + a + ")", x.sitter(a), sitters[a]);
