@@ -528,6 +528,11 @@ public final class SitterCircle {
                 return;
             }
             int law = value;
+            // A name that was taken is a law's; looked at once more, since it is an index from here on.
+            if (law < 0 || law >= LAW_KINDS) {
+                fail(NO_TOKEN);
+                return;
+            }
             if (laws[law] != UNTOLD) {
                 fail(TOLD_ALREADY);
                 return;
